@@ -123,9 +123,9 @@ public final class BargeTests {
     private static void loadShares() {
         BargeLocks x = Checks.unsettledCanal();
         CHECKS.due("load(0, 1) while waters flow", x.load(0, 1), 21);
-        CHECKS.dueWaters(x, "behind it", 1010, 1995, 995);
+        CHECKS.dueWatersShared(x, "behind it");
         CHECKS.refused(x, "load(0, 300)", x.load(0, 300), 8);
-        CHECKS.dueWaters(x, "behind the refusal", 1010, 1995, 995);
+        CHECKS.dueWatersShared(x, "behind the refusal");
     }
 
     private static void pump() {
@@ -192,6 +192,6 @@ public final class BargeTests {
         CHECKS.due("reach(0, 1) then", x.reach(0, 1), 2040);
         BargeLocks y = Checks.unsettledCanal();
         CHECKS.due("pump(0, 1) while waters flow", y.pump(0, 1), 21);
-        CHECKS.dueWaters(y, "behind it", 1010, 1995, 995);
+        CHECKS.dueWatersShared(y, "behind it");
     }
 }

@@ -134,6 +134,9 @@ public final class CanalTests {
         x.addReach(1000, 0, 0);
         CHECKS.due("of the least", x.addChamber(100, 10, 0, 100, 0, 0), 0);
         CHECKS.due("of the most", x.addChamber(100000, 200, 5000, 100000, 5000, 10000000), 1);
+        BargeLocks y = Checks.unsettledCanal();
+        CHECKS.due("while waters flow", y.addChamber(100, 10, 0, 100, 0, 0), 2);
+        CHECKS.dueWatersShared(y, "behind it");
     }
 
     private static void setSill() {
@@ -158,6 +161,9 @@ public final class CanalTests {
         CHECKS.due("the state", Checks.everything(x), before);
         x.undo();
         CHECKS.due("chamber(0, 10) behind undo", x.chamber(0, 10), 0);
+        BargeLocks y = Checks.unsettledCanal();
+        CHECKS.due("setSill(1, 1, 8) while waters flow", y.setSill(1, 1, 8), 0);
+        CHECKS.dueWatersShared(y, "behind it");
         withMud();
     }
 
@@ -183,7 +189,7 @@ public final class CanalTests {
         CHECKS.due("count(6) behind undo", x.count(6), 0);
         BargeLocks y = Checks.unsettledCanal();
         CHECKS.due("setClearance(10) while waters flow", y.setClearance(10), 10);
-        CHECKS.dueWaters(y, "behind it", 1010, 1995, 995);
+        CHECKS.dueWatersShared(y, "behind it");
     }
 
     /** The open canal after 8 passages by the gate 0, with the own height 20 of its sill. */
@@ -219,7 +225,30 @@ public final class CanalTests {
             x.leave(0, 0);
         }
         CHECKS.due("dredge(0, 0) after 24 passages", x.dredge(0, 0), 3);
+        dredgeShares();
         noneDoesNotShare();
+    }
+
+    /** The act shares as another one does that is tested by itself. */
+    private static void dredgeShares() {
+        BargeLocks x = muddyDoubleCanal();
+        BargeLocks y = muddyDoubleCanal();
+        CHECKS.due("dredge(1, 0) while waters flow", x.dredge(1, 0), 1);
+        y.setClearance(10);
+        CHECKS.due("chamber(0, 1) is shared", x.chamber(0, 1) != muddyDoubleCanal().chamber(0, 1) ? 1 : 0, 1);
+        CHECKS.dueWaters(x, "behind it", y.chamber(0, 1), y.reach(1, 1), y.chamber(1, 1));
+    }
+
+    private static BargeLocks muddyDoubleCanal() {
+        BargeLocks x = Checks.doubleCanal();
+        x.addBarge(1, 10, 100, 5, 300);
+        for (int i = 0; i < 4; i++) {
+            CHECKS.due("enter(1, 1)", x.enter(1, 1), 30);
+            CHECKS.due("barge(1, 7)", x.barge(1, 7), 101);
+            CHECKS.due("leave(1, 0)", x.leave(1, 0), 1);
+        }
+        x.supply(1, 1000);
+        return x;
     }
 
     private static void noneDoesNotShare() {

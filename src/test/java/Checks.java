@@ -125,6 +125,11 @@ final class Checks {
         return x;
     }
 
+    /** The waters of the unsettled canal behind an act that takes none, and adds none, of them. */
+    void dueWatersShared(BargeLocks x, String when) {
+        dueWaters(x, when, 1010, 1995, 995);
+    }
+
     /** The waters of the double canal: the chamber 0, the reach 1, the chamber 1. */
     void dueWaters(BargeLocks x, String when, int lowerChamber, int reach, int upperChamber) {
         due("chamber(0, 1) " + when, x.chamber(0, 1), lowerChamber);

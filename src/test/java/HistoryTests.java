@@ -10,6 +10,7 @@ public final class HistoryTests {
         keep();
         restore();
         restoreDoesNotShare();
+        otherCanals();
         longHistory();
         CHECKS.end();
     }
@@ -175,6 +176,28 @@ public final class HistoryTests {
         x.setClearance(10);
         CHECKS.due("restore(0)", x.restore(0), 1);
         CHECKS.dueWaters(x, "behind restore", 1080, 1950, 970);
+    }
+
+    /** Behind undo, another canal can be built; each state still brings back all of its own. */
+    private static void otherCanals() {
+        BargeLocks x = new BargeLocks();
+        x.addReach(1000, 10, 3000);
+        x.addChamber(500, 40, 20, 1000, 30, 4000);
+        x.addBarge(0, 20, 100, 2, 300);
+        x.keep(0);
+        String first = Checks.state(x);
+        x.undo();
+        x.undo();
+        x.undo();
+        CHECKS.due("count(0) behind all undos", x.count(0), 0);
+        x.addReach(2000, 11, 3001);
+        x.addChamber(600, 50, 21, 2000, 31, 4001);
+        x.addBarge(0, 21, 110, 3, 310);
+        String second = Checks.state(x);
+        CHECKS.due("restore(0) of the first canal", x.restore(0), 1);
+        CHECKS.due("the first canal", Checks.state(x), first);
+        x.undo();
+        CHECKS.due("the second canal", Checks.state(x), second);
     }
 
     /** The ring of states turns many times. */

@@ -102,7 +102,7 @@ public final class OrderTests {
     private static void runShares() {
         BargeLocks x = Checks.unsettledCanal();
         CHECKS.due("no order", Checks.run(x, "close 3"), 0);
-        CHECKS.dueWaters(x, "behind no order", 1010, 1995, 995);
+        CHECKS.dueWatersShared(x, "behind no order");
         BargeLocks y = Checks.unsettledCanal();
         CHECKS.due("one order", Checks.run(y, "load 0 1"), 1);
         CHECKS.dueWaters(y, "behind one order", 1000, 2000, 1000);
