@@ -74,6 +74,11 @@ public final class ModelTests {
         return in(0, Math.max(0, number - 1));
     }
 
+    /** A number that count() tells; asked of the plain canal, as only 512 calls of a built one count. */
+    private int number(int what) {
+        return (int) plain.call("count", new int[] {what});
+    }
+
     private void run() {
         call("undo");
         call("addReach", in(100, 5000), in(0, 300), in(0, 20000));
@@ -120,13 +125,13 @@ public final class ModelTests {
 
     /** Calls that bring barges into a chamber and out again. */
     private void lockThrough() {
-        int chamber = below(built.count(1));
+        int chamber = below(number(1));
         int gate = in(0, 1);
         call("close", chamber);
         call("sluice", chamber, gate);
         call("open", chamber, gate);
         for (int i = in(1, 8); i > 0; i--) {
-            call("enter", below(built.count(2)), chamber);
+            call("enter", below(number(2)), chamber);
         }
         for (int i = in(0, 8); i > 0; i--) {
             call("leave", chamber, gate);
@@ -153,8 +158,8 @@ public final class ModelTests {
     }
 
     private String order() {
-        int chamber = below(built.count(1));
-        int barge = Math.min(11, in(0, built.count(2)));
+        int chamber = below(number(1));
+        int barge = Math.min(11, in(0, number(2)));
         switch (in(0, 6)) {
             case 0:
                 return "sluice " + chamber + " " + in(0, 1);
@@ -182,9 +187,9 @@ public final class ModelTests {
     }
 
     private int[] likely(String method) {
-        int chamber = below(built.count(1));
-        int barge = below(built.count(2));
-        int reach = below(built.count(0));
+        int chamber = below(number(1));
+        int barge = below(number(2));
+        int reach = below(number(0));
         switch (method) {
             case "addReach":
                 return new int[] {in(100, 5000), in(0, 300), in(0, 20000)};
