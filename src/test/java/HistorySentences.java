@@ -74,6 +74,13 @@ final class HistorySentences {
                 "addChamber 600 50 21 2000 31 4001", "addBarge 0 21 110 3 310", "addBarge 2 21 110 3 310", "restore 0", "same");
         of.run(OPEN, "enter 0 0", "keep 0", "undo", "undo", "undo", "undo", "undo", "chamber 0 1 = 0", "restore 0", "lying 0 0 = 0",
                 "leave 0 0 = 0");
+        // All barges lie in one chamber, in an order that is another one when the slot and undo() bring it back.
+        String[] row = Sentences.join("addReach 10000 0 30000", "addChamber 500 200 0 10000 0 0",
+                Sentences.times(12, "addBarge 0 16 10 2 10"), "sluice 0 0", "open 0 0", enterAll("11 10 9 8 7 6 5 4 3 2 1 0"));
+        of.run(row, "lying 0 0 = 0", "lying 0 11 = 11", "keep 1", Sentences.times(12, "leave 0 0"),
+                enterAll("0 1 2 3 4 5 6 7 8 9 10 11"), "lying 0 0 = 11", "lying 0 1 = 10", "lying 0 11 = 0",
+                "restore 1 = 12", "lying 0 0 = 0", "lying 0 1 = 1", "lying 0 10 = 10", "lying 0 11 = 11", "undo = 4",
+                "lying 0 0 = 11", "lying 0 1 = 10", "lying 0 11 = 0", "restore 1 = 12", "lying 0 11 = 11");
         of.says("where it stays.");
         of.run(CANAL, "keep 0", "mark", "supply 0 7", "restore 0", "same", "supply 0 9", "sluice 0 0", "restore 0", "same",
                 "undo", "undo", "undo", "restore 0", "same");
@@ -83,6 +90,14 @@ final class HistorySentences {
         of.says("- `slot`: 0 or 1");
         of.known(Sentences.join(CANAL, "keep 0", "keep 1"), "restore ?", 2);
         of.run(CANAL, "keep 0", "setClearance 20", "keep 1", "restore 0", "count 6 = 10", "restore 1", "count 6 = 20");
+    }
+
+    private static String[] enterAll(String barges) {
+        String[] calls = barges.split(" ");
+        for (int i = 0; i < calls.length; i++) {
+            calls[i] = "enter " + calls[i] + " 0";
+        }
+        return calls;
     }
 
     private void restoreAnswers() {

@@ -58,6 +58,9 @@ final class OrderSentences {
         of.run(OPEN, "enter 0 0", "text close 0;sluice 0 1;open 0 1;leave 0 1", "runOrders = 4", "barge 0 7 = 1",
                 "chamber 0 8 = 1");
         of.run("text close 0;close 0;close 0;close 0;close 0;close 0;close 0", "runOrders = 0");
+        // There is no room for more orders than these seven.
+        of.run(Sentences.DOUBLE, "text load 0 1;load 0 1;load 0 1;load 0 1;load 0 1;close 0;close 1", "count 9 = 60",
+                "runOrders = 7", "barge 0 3 = 5", "count 3 = 0", "runOrders = 5", "barge 0 3 = 10", "count 7 = 2");
         of.says("which stays,");
         of.run(BARGE, "text load 0 7", "runOrders = 1", "count 9 = 8", "runOrders = 1", "barge 0 3 = 14", "clearText = 8");
         of.run(BARGE, "text close 0", "runOrders = 0", "count 9 = 7", "text close 9", "runOrders = -106", "count 9 = 7");
@@ -72,6 +75,7 @@ final class OrderSentences {
         of.run(BARGE, "text load 0 5;close 0;load 0 7", "runOrders = 1", "barge 0 3 = 5", "count 7 = 2");
         of.run(BARGE, "text load 0 5;load 1 5;load 0 7", "runOrders = 1", "barge 0 3 = 5", "count 7 = 0");
         of.run(BARGE, "text sluice 1 0;load 0 7", "runOrders = 0", "barge 0 3 = 0");
+        of.run("text close 3", "runOrders = 0", "count 7 = 0", "text load 0 1", "runOrders = 0", "count 7 = 0");
         String[] errors = {"sluice 1 0", "open 1 0", "close 1", "enter 0 1", "enter 1 0", "leave 1 0", "load 1 1", "pump 1 1"};
         for (String error : errors) {
             of.run(BARGE, "text load 0 7;" + error + ";load 0 7", "runOrders = 1", "barge 0 3 = 7", "count 7 = 0");

@@ -39,6 +39,16 @@ final class TermSentences {
         of.run("addReach 100000 5000 10000000", Sentences.times(15, "supply 0 1000000"), "reach 0 1 = 25000000",
                 "reach 0 0 = 30000", "addChamber 100000 200 5000 100000 5000 10000000", "sluice 0 0 = 17500",
                 "chamber 0 1 = 12500000", "flow 0 1 = -1250000", "account 0 = 35000000");
+        // h = 2200000000 / 100100 = 21978, and 100000 * 21978 = 2197800000
+        of.run("addReach 100 0 10000000", Sentences.times(12, "supply 0 1000000"), "addChamber 100000 10 0 100 0 0",
+                "flow 0 0 = 21978000", "sluice 0 0 = 21978", "chamber 0 1 = 21978000", "reach 0 1 = 22000");
+        // h = 10000000000 / 100100 = 99900; then 199 and 298 millions are shared, so that h = 198801 and h = 297702.
+        String[] full = Sentences.join("addReach 100 0 10000000", Sentences.times(90, "supply 0 1000000"),
+                "addChamber 100000 10 0 100 0 0", "sluice 0 0 = 99900", "reach 0 1 = 100000");
+        of.run(full, Sentences.times(99, "supply 0 1000000"), "sluice 0 0 = 198801", "chamber 0 1 = 198801000",
+                "reach 0 1 = 199000", Sentences.times(99, "supply 0 1000000"), "sluice 0 0 = 297702",
+                "chamber 0 1 = 297702000", "reach 0 1 = 298000", "account 0 = 298000000", "account 4 = 288000000",
+                "account 5 = 10000000");
     }
 
     private void waters() {
@@ -173,6 +183,12 @@ final class TermSentences {
                 "load 0 1 = REFUSED 8");
         of.says("Its weight is all of these together.");
         of.run(CANAL, "addBarge 0 5 10 1 100", "load 0 4", "pump 0 7", "barge 0 1 = 21", "reach 0 2 = 21");
+        // Twelve of the heaviest, half of them with as much cargo as can be, the others with ballast.
+        of.run("addReach 1000 0 100000", Sentences.times(12, "addBarge 0 60 500 1 1000"), "load 0 1000 = 1500",
+                "load 1 1000", "load 2 1000", "load 3 1000", "load 4 1000", "load 5 99", "pump 5 901 = 1500", "pump 6 1000",
+                "pump 7 1000", "pump 8 1000", "pump 9 1000", "pump 10 1000", "pump 11 1000 = 1500", "barge 5 1 = 1500",
+                "barge 5 3 = 99", "barge 5 4 = 901", "barge 5 5 = 0", "barge 11 2 = 1500", "reach 0 2 = 18000",
+                "reach 0 1 = 93099", "reach 0 0 = 11109", "account 1 = 6901", "account 2 = 5099", "account 3 = 18000");
         of.says("Its draught is its weight / immersion, rounded up.");
         of.run(CANAL, "addBarge 0 5 98 7 100", "barge 0 2 = 14", "load 0 1 = 15", "load 0 6 = 15", "load 0 1 = 16");
         of.says("It floats in one reach or chamber.");
